@@ -1620,8 +1620,11 @@ public final class PondRoofs {
             int best = 0;
             int fewestBare = MOST_PONDS + 1;
             for (int set = 0; set < 1 << town.pipeCount; set++) {
-                int bare = Integer.bitCount(town.bareAmong(after(days, set)));
                 boolean fewerPipes = Integer.bitCount(set) < Integer.bitCount(best);
+                if (fewestBare == 0 && !fewerPipes) {
+                    continue;
+                }
+                int bare = Integer.bitCount(town.bareAmong(after(days, set)));
                 if (bare < fewestBare || bare == fewestBare && fewerPipes) {
                     best = set;
                     fewestBare = bare;

@@ -305,8 +305,13 @@ public final class DaysTest {
         row("back", x, 8, 2, 0);
         CHECKS.due("nothing to undo", x.undo(), -1);
         CHECKS.due("acts", x.count(18), 0);
-        x.days(1);
+        x.days(60);
+        x.days(60);
         CHECKS.due("back again", x.back(), 3);
+        int[] water = {77, 72, 67};
+        for (int i = 0; i < 3; i++) {
+            CHECKS.due("the log is so again", x.log(i, 0), water[i]);
+        }
         x.days(2);
         CHECKS.due("undo behind back", x.undo(), 1);
         CHECKS.due("another image", x.image(), 4);
@@ -314,6 +319,15 @@ public final class DaysTest {
         CHECKS.due("the latest image", x.back(), 4);
         CHECKS.due("a town with a fault", Checks.text(x, 0, "q"), -1);
         CHECKS.due("the image stays", x.back(), 4);
+        PondRoofs y = Checks.town("sd0;pw10");
+        y.days(1);
+        y.image();
+        y.undo();
+        y.pour(0, 9);
+        y.days(1);
+        CHECKS.due("another log", y.log(0, 0), 19);
+        y.back();
+        CHECKS.due("the log of the image", y.log(0, 0), 10);
         Checks.text(x, 0, "p");
         CHECKS.due("no image of this town", x.back(), -1);
     }

@@ -122,6 +122,9 @@ public final class FaceTest {
         }
         CHECKS.due("one import", text.lines().filter(l -> l.startsWith("import ")).count(), 1);
         CHECKS.due("one throw", code.split("\\bthrow\\b", -1).length - 1, 1);
+        // All rows are made in constructors, so that no call takes room.
+        code.lines().filter(l -> l.contains("new ")).forEach(l -> CHECKS.due("made outside a constructor: " + l,
+            l.matches(" +(private )?final .* = new .*;| +\\w+(\\[i\\])? = new .*;| +throw new .*;"), true));
         int begun = 0;
         List<String> lines = text.lines().toList();
         for (int i = 0; i < lines.size(); i++) {

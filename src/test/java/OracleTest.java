@@ -321,7 +321,7 @@ public final class OracleTest {
     private String town() {
         StringBuilder text = new StringBuilder();
         int ponds = 1 + random.nextInt(7);
-        int pipes = random.nextInt(Math.min(9, ponds * 2));
+        int pipes = random.nextInt(4) == 0 ? 9 : random.nextInt(Math.min(9, ponds * 2));
         boolean dry = random.nextBoolean();
         if (random.nextInt(4) > 0) {
             text.append(blanks("s")).append(items("rdm", dry ? new int[] {2, 5, 9} : new int[] {9, 9, 9})).append(";");

@@ -62,6 +62,13 @@ public final class OutlookTest {
         v.days(1);
         CHECKS.due("a day sooner", v.dries(0), 98);
         CHECKS.due("a day sooner", v.dries(1), 1);
+        PondRoofs hundred = Checks.town("sd1;pw99c99b9;pw98c99;im1o1");
+        Checks.text(hundred, 1, "y:t=0?1");
+        Checks.text(hundred, 1, "y:t<2?1");
+        hundred.law(0);
+        CHECKS.due("behind 99 days", hundred.dries(1), 99);
+        hundred.law(1);
+        CHECKS.due("behind 100 days", hundred.dries(1), -1);
         PondRoofs late = Checks.town("sd1;pw99c99b9;pw1c99b9;im1o1");
         CHECKS.due("the sum of both is 100 and 2 dry a day", late.dries(1), 50);
     }

@@ -42,7 +42,15 @@ public final class TextsTest {
             CHECKS.due("feed " + i, x.feed(full, full, full, full, full), 3 + 20 * i);
         }
         CHECKS.due("feed 17 more", x.feed(full, full, full, full, 0x20000000), 240);
-        CHECKS.due("feed beyond 240", x.feed(0, 0, 0, 0, 0x20), -1);
+        for (int shift = 0; shift < 32; shift += 8) {
+            int one = 1 << shift;
+            int high = 128 << shift;
+            CHECKS.due("feed beyond 240", x.feed(one, 0, 0, 0, 0), -1);
+            CHECKS.due("feed beyond 240", x.feed(0, high, 0, 0, 0), -1);
+            CHECKS.due("feed beyond 240", x.feed(0, 0, one, 0, 0), -1);
+            CHECKS.due("feed beyond 240", x.feed(0, 0, 0, high, 0), -1);
+            CHECKS.due("feed beyond 240", x.feed(0, 0, 0, 0, one), -1);
+        }
         CHECKS.due("feed of nothing more", x.feed(0, 0, 0, 0, 0), 240);
         CHECKS.due("bytes", x.count(4), 240);
         CHECKS.due("fault", x.fault(0), -1);
@@ -175,6 +183,8 @@ public final class TextsTest {
         fault(1, "y:[[[[[[[", 8);
         fault(1, "y:[[[[[[d]]]]]]+[[[[[[d]]]]]]=1&!!!!!!d=1|((((((d=1))))))?1", -1);
         fault(1, "y:!!!d=1&!!!!!!!d=1?1", 15);
+        fault(1, "y:d=1?[[[[[[d]]]]]]", -1);
+        fault(1, "y:d=1?[[[[[[[d]]]]]]]", 12);
         fault(1, "y:!![[[[d]]]]=[[[[[d", 18);
     }
 

@@ -85,7 +85,7 @@ public final class TownTest {
     /** Levels 42 and 11: d 31, m 9, w 40, h 7, l 10, t 0. */
     private static void flowBy(String law, int want) {
         PondRoofs x = Checks.town("sd0;pw10b1;pw40b2;ia1b0m9h7");
-        Checks.text(x, 1, law);
+        CHECKS.due("the law " + law, Checks.text(x, 1, law), 0);
         x.law(0);
         CHECKS.due("flow by " + law, x.pipe(0, 5), want);
     }
@@ -129,6 +129,9 @@ public final class TownTest {
         flowBy("y:!!d=31?4;y:5", 4);
         flowBy("y:d=30+1?4;y:5", 4);
         flowBy(" y : [ d - 1 ] = 30 ? 4 ; y : 5 ", 4);
+        flowBy("y:d=1|d=31&1=1+0*[1+1*[1+1*[1+1*[1+1*[1+1*[1+1*1]]]]]]?4;y:5", 4);
+        flowBy("y:d=1|d=31&(d=1|d=31&(d=1|d=31&(d=1|d=31&(d=1|d=31&(d=1|d=31&7=1+1*2*3)))))?4;y:5", 4);
+        flowBy("y:d=1|d=31&(d=1|d=31&(d=1|d=31&(d=1|d=31&(d=1|d=31&(d=1|d=31&8=1+1*2*3)))))?4;y:5", 5);
         PondRoofs alike = Checks.town("pw10b5;pw15;im9");
         Checks.text(alike, 1, "y:9");
         alike.law(0);
