@@ -1495,7 +1495,7 @@ public final class PondRoofs {
 
         int nextToMeasure() {
             int best = NONE;
-            int fewest = Integer.MAX_VALUE;
+            int fewest = ways() + 1;
             for (int pond = 0; pond < town.pondCount; pond++) {
                 int most = mostLeftBy(pond);
                 if (most > 0 && most < fewest) {

@@ -1,5 +1,3 @@
-import java.math.BigInteger;
-
 /** Promises 14 to 17, 19, 20, 43 and 44: days, years, acts undone, the log, plans, images. */
 public final class DaysTest {
     private static final Checks CHECKS = new Checks();
@@ -120,21 +118,6 @@ public final class DaysTest {
         CHECKS.due("undo", x.undo(), 39);
         CHECKS.due("the day ahead", x.count(6), 9998);
         CHECKS.due("days(1)", x.days(1), 9999);
-    }
-
-    /** The draws told anew, with numbers that know no bound. */
-    private static final class Draws {
-        private static final BigInteger ROUND = BigInteger.ONE.shiftLeft(64);
-        private BigInteger x;
-
-        Draws(long seed) {
-            x = BigInteger.valueOf(seed).mod(ROUND);
-        }
-
-        int next(int m) {
-            x = x.multiply(new BigInteger("6364136223846793005")).add(new BigInteger("1442695040888963407")).mod(ROUND);
-            return x.shiftRight(33).mod(BigInteger.valueOf(m)).intValue();
-        }
     }
 
     private static void years() {
