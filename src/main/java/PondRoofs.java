@@ -664,7 +664,6 @@ public final class PondRoofs {
             for (int i = 0; i < MOST_PIPES; i++) {
                 copyRow(other.pipes[i], pipes[i]);
             }
-            skyCount = other.skyCount;
             pondCount = other.pondCount;
             pipeCount = other.pipeCount;
         }

@@ -116,7 +116,8 @@ public final class FaceTest {
         String code = text.replaceAll("/\\*\\*[^*]*\\*/", "").replaceAll("//.*", "");
         List<String> ruledOut = List.of("->", "::", "\\bfinally\\b", "\\bsynchronized\\b", "\\bassert\\b", "\\bpackage\\b",
             "Exact\\b", "\\btry\\b", "\\bcatch\\b", "\\bcurrentTimeMillis\\b", "\\bnanoTime\\b", "\\bRandom\\b", "\\bObject\\b",
-            "\\bSystem\\.(?!arraycopy)", "\\bwhile \\(true\\)", "\\bfor \\(;", "[^\\x00-\\x7F]", "\\bstatic \\{");
+            "\\bSystem\\.(?!arraycopy)", "\\bwhile \\(true\\)", "\\bfor \\(;", "[^\\x00-\\x7F]", "\\bstatic \\{",
+            "\\b(Integer|Long)\\.M[AI]");
         for (String word : ruledOut) {
             CHECKS.due("the source has " + word, Pattern.compile(word).matcher(code).find(), false);
         }

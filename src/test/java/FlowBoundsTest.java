@@ -17,6 +17,8 @@ public final class FlowBoundsTest {
         cutTowardsNought();
         compared();
         firstClauseThatHolds();
+        longestLaws();
+        deepestLaws();
         lawsThatHold();
         odds();
         CHECKS.finish();
@@ -260,6 +262,10 @@ public final class FlowBoundsTest {
         holds("!d=30", true);
         holds("!d=31", false);
         holds("!!d=31", true);
+        holds("!30<d", false);
+        holds("!31<d", true);
+        holds("!32>d", false);
+        holds("!31>d", true);
         boolean[] truths = {false, true};
         String[] units = {"d=1", "d=31"};
         for (int a = 0; a < 2; a++) {
@@ -269,6 +275,8 @@ public final class FlowBoundsTest {
                 holds("!" + units[a] + "&" + units[b], !truths[a] && truths[b]);
                 holds("!" + units[a] + "|" + units[b], !truths[a] || truths[b]);
                 holds("!(" + units[a] + "|" + units[b] + ")", !(truths[a] || truths[b]));
+                holds("!(" + units[a] + "&" + units[b] + ")", !(truths[a] && truths[b]));
+                holds("!!(" + units[a] + "&" + units[b] + ")", truths[a] && truths[b]);
                 for (int c = 0; c < 2; c++) {
                     String joined = units[a] + "|" + units[b] + "&" + units[c];
                     holds(joined, truths[a] || truths[b] && truths[c]);
@@ -291,6 +299,36 @@ public final class FlowBoundsTest {
         flowBy("y:d=29?1;y:5;y:6", town, 5);
         flowBy("y:d=30?0;y:7", town, 0);
         flowBy("y:d=30?0-1;y:7", town, 0);
+    }
+
+    /** The tape's 240 bytes, each of them a sign of its own: the last one counts still. */
+    private static void longestLaws() {
+        String town = "pw60;pw30;im9";
+        for (int last = 0; last <= 9; last++) {
+            String one = "y:!d=0?" + "0+".repeat(116) + last;
+            CHECKS.due("as long as the tape", one.length(), 240);
+            flowBy(one, town, last);
+            String many = "y:d=0?1;".repeat(29) + "y:d=30?" + last;
+            flowBy(many, town, last);
+            String truths = "y:" + "d=1|".repeat(58) + "d=30?" + last;
+            flowBy(truths, town, last);
+            String units = "y:" + "d>1&".repeat(58) + "d=30?" + last;
+            flowBy(units, town, last);
+            flowBy("y:" + "1*".repeat(118) + last, town, last);
+        }
+    }
+
+    private static void deepestLaws() {
+        String deep = "1+1*[".repeat(6) + "1+1*d" + "]".repeat(6);
+        is(deep, "38");
+        holds("d=1|d=31&" + deep + "=1+1*37", true);
+        holds("d=1|d=31&" + deep + "=1+1*36", false);
+        String unit = "d=1|d=31&(".repeat(6);
+        holds(unit + "d=1|d=31&7=1+1*6" + ")".repeat(6), true);
+        holds(unit + "d=1|d=31&8=1+1*6" + ")".repeat(6), false);
+        String three = "1+1*[".repeat(3) + "1+1*d" + "]".repeat(3);
+        holds("!(!" + three + "=35)", true);
+        holds("!(!" + three + "=36)", false);
     }
 
     private static void lawsThatHold() {

@@ -348,6 +348,15 @@ public final class OutlookBoundsTest {
         PondRoofs one = Checks.town("sd1;pw12n10;pw10n10;pw10n10;ia0b1m1;ia0b2m1");
         CHECKS.due("two of three", one.kept(1, 0), 2);
         CHECKS.due("by the first pipe", one.kept(1, 1), 1);
+        PondRoofs most = Checks.town("sd1;pw10;pw10;pw10;pw10;pw10;pw10;pw10n9;im9;ia0b6");
+        CHECKS.due("one of seven without a pipe", most.kept(1, 0), 1);
+        CHECKS.due("no pipe is the fewest", most.kept(1, 1), 0);
+        PondRoofs fed = Checks.town("sd1;" + times("pw10", 6) + ";pw30n30;ia6b5m1");
+        CHECKS.due("one of seven by a pipe", fed.kept(1, 0), 1);
+        CHECKS.due("that pipe", fed.kept(1, 1), 1);
+        PondRoofs dry = Checks.town("sd9;pw9;pw9;im9o1");
+        CHECKS.due("none by any set", dry.kept(9, 0), 0);
+        CHECKS.due("the set of none", dry.kept(9, 1), 0);
     }
 
     private static void cut() {
@@ -373,6 +382,9 @@ public final class OutlookBoundsTest {
         CHECKS.due("the least of seven", seven.cut(9), 1);
         PondRoofs last = Checks.town("sd1;" + times("pw99c99", 6) + ";pw10");
         CHECKS.due("the last of seven", last.cut(1), 64);
+        String nine = ";" + times("ia6b0m1", 8);
+        CHECKS.due("eight pipes to it", Checks.town("sd9;" + times("pw99c99n0", 6) + ";pw10" + nine).cut(1), 64);
+        CHECKS.due("nine pipes to it", Checks.town("sd9;" + times("pw99c99n0", 6) + ";pw10" + nine + ";ia5b6m1").cut(1), -1);
     }
 
     // ---- where joined waters come to rest
@@ -437,6 +449,8 @@ public final class OutlookBoundsTest {
         CHECKS.due("none of nine", Checks.town("pg1;pf1;" + times("i", 9)).apart(), 0);
         CHECKS.due("by a third pond", Checks.town("pg1;p;pf1;i;ia1b2").apart(), 1);
         CHECKS.due("the most, not the least bits", Checks.town("pg1;p;pf1;i;ia1b2;ia1b2").apart(), 6);
+        CHECKS.due("the first and the last of seven", Checks.town("pg1;p;p;p;p;p;pf1;ib6;ib5;ia5b6").apart(), 2);
+        CHECKS.due("the last and the first of seven", Checks.town("pf1;p;p;p;p;p;pg1;ib6;ib5;ia5b6").apart(), 2);
         PondRoofs x = Checks.town("p;pf1;i");
         CHECKS.due("before a pike comes", x.apart(), 1);
         x.stock(0, 0);
@@ -514,6 +528,12 @@ public final class OutlookBoundsTest {
             x.measured(known, 0);
             CHECKS.due("not the one that is known", x.measure(), known == 0 ? 1 : 0);
         }
+        PondRoofs nines = Checks.town("p;p;p;p");
+        nines.measured(0, 0);
+        nines.measured(2, 9);
+        for (int time = 0; time < 3; time++) {
+            CHECKS.due("1 or 3, asked again", nines.measure(), 1);
+        }
         PondRoofs x = Checks.town("p;p;p;p");
         x.measured(3, 4);
         CHECKS.due("0, 1 or 2: each leaves two at worst", x.measure(), 0);
@@ -557,6 +577,11 @@ public final class OutlookBoundsTest {
         }
         CHECKS.due("nine days", x.feud(0, 1, 0, 1, 9, 0, 0), 30 - 2 * 9);
         CHECKS.due("the third as it is not", x.feud(0, 1, 2, 1, 1, 0, 0), 30);
+        CHECKS.due("as the second pipe, too", x.feud(0, 1, 0, 2, 1, 0, 0), 30);
+        CHECKS.due("the third as it is", x.feud(0, 1, 0, 2, 1, 0, 1), 28);
+        CHECKS.due("alone, closed", x.feud(0, 1, 2, 2, 1, 0, 1), 30);
+        CHECKS.due("alone, closed", x.feud(0, 1, 2, 2, 1, 1, 0), 30);
+        CHECKS.due("alone, open", x.feud(0, 1, 2, 2, 1, 1, 1), 28);
         CHECKS.due("the keys stay", x.count(15), 4);
     }
 

@@ -1,4 +1,3 @@
-import java.util.ArrayList;
 import java.util.List;
 import java.util.NoSuchElementException;
 
@@ -48,46 +47,9 @@ public final class RefusedTest {
         made = maker;
     }
 
-    // ---- what can be seen of an object
-
-    private static List<Long> seen(PondRoofs x) {
-        List<Long> seen = new ArrayList<>();
-        for (int what = 0; what <= 18; what++) {
-            seen.add((long) x.count(what));
-        }
-        for (int sort = 0; sort < 3; sort++) {
-            seen.add((long) x.fault(sort));
-            seen.add((long) x.sky(sort));
-        }
-        for (int pond = 0; pond < x.count(0); pond++) {
-            for (int what = 0; what <= 9; what++) {
-                seen.add((long) x.pond(pond, what));
-            }
-        }
-        for (int i = 0; i < Math.min(20, x.count(17)); i++) {
-            seen.add(x.log(i, 0) * 100000L + x.log(i, 1) * 1000L + x.log(i, 2));
-        }
-        for (int plan = 0; plan < x.count(3); plan++) {
-            for (int i = 0; x.step(plan, i, 0) != GONE; i++) {
-                seen.add(x.step(plan, i, 0) * 100L + x.step(plan, i, 1) * 10L + x.step(plan, i, 2));
-            }
-        }
-        seen.add((long) x.secret(NONE));
-        seen.add((long) x.secret(0));
-        for (int law = -1; law < x.count(2); law++) {
-            x.law(law);
-            for (int pipe = 0; pipe < x.count(1); pipe++) {
-                for (int what = 0; what <= 5; what++) {
-                    seen.add((long) x.pipe(pipe, what));
-                }
-            }
-        }
-        return seen;
-    }
-
     private static void alike(String call, PondRoofs x, PondRoofs y) {
-        List<Long> got = seen(x);
-        List<Long> want = seen(y);
+        List<Long> got = Seen.of(x);
+        List<Long> want = Seen.of(y);
         CHECKS.due(madeAs + ": " + call + " changed " + want + " to " + got, got.equals(want), true);
     }
 
@@ -413,6 +375,7 @@ public final class RefusedTest {
         state("with four plans", () -> withText(2, 2, "d2;d3", "d4"));
         CHECKS.due("four plans", made.make().count(3), 4);
         refused("a fifth plan", NONE, x -> x.text(2));
+        faultyTapes();
         state("with ten measured", RefusedTest::tenMeasured);
         refused("an eleventh", NONE, x -> x.measured(0, 3));
         state("with full ponds", () -> Checks.town("pw60f99g9;pw59f95g8;io1"));
@@ -433,6 +396,23 @@ public final class RefusedTest {
         refused("a day", NONE, x -> x.days(1));
         refused("a year", NONE, x -> x.years(1, 4));
         refused("a plan of two", 0, x -> x.perform(0));
+    }
+
+    /** Texts that stand up to their last sign, and texts without a fault that are asked after alone. */
+    private static void faultyTapes() {
+        String[][] faulty = {{"sr9d9m9;p;p;pw61", "sr9;p;pw9;ia0b2", "p;p;ia1", "s;i", "p;p;p;p;p;p;p;p", "p;pw1w", "pc0"},
+            {"y:1;y:d=1", "y:9;", "y:[[[[[[[d]]]]]]]", "y:12345"}, {"d1;d", "d1;o", "w1", "o1;d2;"}};
+        String[] right = {"sr9d9m9;pw9;pw8", "y:9", "d9;d9;d9"};
+        for (int sort = 0; sort < 3; sort++) {
+            int of = sort;
+            for (String text : faulty[sort]) {
+                state("with " + text + " on the tape", () -> withText(2, 0, "", text));
+                refused("text(" + sort + ")", NONE, x -> x.text(of));
+                changesNothing("fault(" + sort + ")", x -> x.fault(of));
+            }
+            state("with " + right[sort] + " on the tape", () -> withText(2, 0, "", right[of]));
+            refused("fault(" + sort + ")", NONE, x -> x.fault(of));
+        }
     }
 
     private static PondRoofs tenMeasured() {

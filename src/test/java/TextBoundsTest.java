@@ -23,6 +23,7 @@ public final class TextBoundsTest {
         waterAndCapacity();
         endsOfPipes();
         townsThatEndTooEarly();
+        blanksBetweenSigns();
         townsGoOn();
         lawsGoOn();
         numbersOfALaw();
@@ -108,6 +109,13 @@ public final class TextBoundsTest {
         PondRoofs full = withBlanks(240);
         CHECKS.due("nothing more", feed(full, 0, NOWHERE), 240);
         CHECKS.due("one more", feed(full, 1, NOWHERE), -1);
+        for (int bit = 0; bit < 32; bit++) {
+            for (int word = 0; word < 5; word++) {
+                int[] w = new int[5];
+                w[word] = 1 << bit;
+                CHECKS.due("one more by bit " + bit, full.feed(w[0], w[1], w[2], w[3], w[4]), -1);
+            }
+        }
         CHECKS.due("shortened", full.end(239), true);
         CHECKS.due("one more then", feed(full, 1, NOWHERE), 240);
     }
@@ -338,6 +346,32 @@ public final class TextBoundsTest {
         stands(TOWN, "p" + " ".repeat(239));
         endsTooEarly(TOWN, " ".repeat(239) + "s");
         stands(TOWN, " ".repeat(117) + "p" + " ".repeat(61) + "w" + " ".repeat(59) + "7");
+    }
+
+    /** A blank at each place of a text stands, but for the places within a number: there the next digit is the fault. */
+    private static void blanks(int sort, String text, boolean numbers) {
+        for (int at = 0; at <= text.length(); at++) {
+            boolean within = numbers && at > 0 && at < text.length()
+                    && Character.isDigit(text.charAt(at - 1)) && Character.isDigit(text.charAt(at));
+            for (int many = 1; many <= 2; many++) {
+                String spaced = text.substring(0, at) + " ".repeat(many) + text.substring(at);
+                fault(sort, spaced, within ? at + many : -1);
+            }
+        }
+    }
+
+    private static void blanksBetweenSigns() {
+        blanks(TOWN, "sr1d02m3;pw12c34b5n06e7k89l90f12g3;p;ia1b00m9h99o1", true);
+        blanks(LAW, "y:!(d=12|m<3456)&w>h+l-t*[7/89]?[d]*10;y:0", true);
+        blanks(PLAN, "o1;c2;d3;w45;w00", false);
+        PondRoofs x = new PondRoofs();
+        CHECKS.due("a plan with blanks", Checks.text(x, PLAN, " w  4   5 ; d 0"), 0);
+        CHECKS.due("its first digit", x.step(0, 0, 1), 4);
+        CHECKS.due("its second digit", x.step(0, 0, 2), 5);
+        PondRoofs y = Checks.town("  p  w  12  c 34 ");
+        CHECKS.due("a number behind blanks", y.pond(0, 0) * 100 + y.pond(0, 1), 1234);
+        fault(TOWN, "p\tw1", 1);
+        fault(TOWN, "p\nw1", 1);
     }
 
     /** Behind a beginning that stands so far, each byte but a blank and these is the fault itself. */
@@ -599,6 +633,8 @@ public final class TextBoundsTest {
         CHECKS.due("a town with a fault", Checks.text(x, TOWN, "pw7;"), -1);
         CHECKS.due("all stays", x.count(0) * 1000 + x.count(6) * 100 + x.count(16) * 10 + x.count(18), 3 * 1000 + 5 * 100 + 10 + 6);
         CHECKS.due("the image stays", x.back(), 5);
+        x.key(0, false);
+        x.days(2);
         CHECKS.due("another town", Checks.text(x, TOWN, "pw7;pw2"), 2);
         int[] counts = {2, 0, 1, 1, 0, 0, 0, 9, 0, 0, 0, -11, 111, 7, 8, 0, 0, 0, 0};
         for (int what = 0; what < counts.length; what++) {
@@ -613,6 +649,27 @@ public final class TextBoundsTest {
         CHECKS.due("no pipe of the other one", x.pipe(0, 0), -1);
         CHECKS.due("a day", x.days(1), 1);
         CHECKS.due("one act", x.undo(), 0);
+        smallerTowns();
+    }
+
+    /** A town of the most and then a small one: all answers are those of an object that had the small one alone. */
+    private static void smallerTowns() {
+        String most = "sr9d9m0;" + times("pw9c9b9n9e9k9l9f9g9", 7) + ";" + times("ib6m9o1", 9);
+        String[] towns = {"p", "p;p", "p;p;i", "s;pw5;pw9;pw1;io1;ia2b1", times("p", 7), times("p", 6) + ";" + times("i", 8)};
+        for (String town : towns) {
+            PondRoofs x = Checks.town(most);
+            x.measured(6, 9);
+            x.days(3);
+            x.image();
+            CHECKS.due("the smaller town", Checks.text(x, TOWN, town), Checks.town(town).count(0));
+            CHECKS.due(town + " behind a greater one", Seen.of(x).equals(Seen.of(Checks.town(town))), true);
+            PondRoofs y = Checks.town(most);
+            Checks.text(y, TOWN, town);
+            y.days(9);
+            PondRoofs fresh = Checks.town(town);
+            fresh.days(9);
+            CHECKS.due("its days", Seen.of(y).equals(Seen.of(fresh)), true);
+        }
     }
 
     private static void stepsToldBack() {
