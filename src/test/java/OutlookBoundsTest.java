@@ -442,6 +442,8 @@ public final class OutlookBoundsTest {
         CHECKS.due("a pike and a carp", Checks.town("pg1;pf1;i").apart(), 0);
         CHECKS.due("the other way", Checks.town("pf1;pg1;i").apart(), 0);
         CHECKS.due("a pike with its own carp", Checks.town("pf1g1;p;i").apart(), 1);
+        CHECKS.due("and in a later pond", Checks.town("p;pf1g1;p;i;ia1b2").apart(), 3);
+        CHECKS.due("and in the last of seven", Checks.town("p;p;p;p;p;p;pf1g1;ib6").apart(), 1);
         CHECKS.due("that meets a pike", Checks.town("pf1g1;pg1;i").apart(), 0);
         CHECKS.due("open now does not matter", Checks.town("pg1;pf1;io1").apart(), 0);
         CHECKS.due("no pipe", Checks.town("pg1;pf1").apart(), 0);
@@ -573,6 +575,7 @@ public final class OutlookBoundsTest {
             int gap = gapOfOneDay(a, b);
             CHECKS.due("feud " + a + " " + b, x.feud(0, 1, 0, 1, 1, a, b), gap);
             CHECKS.due("the other way", x.feud(1, 0, 0, 1, 1, a, b), -gap);
+            CHECKS.due("each with the other pipe", x.feud(0, 1, 1, 0, 1, b, a), gap);
             CHECKS.due("one pipe: open if both would", x.feud(0, 1, 0, 0, 1, a, b), gapOfOneDay(a & b, 0));
         }
         CHECKS.due("nine days", x.feud(0, 1, 0, 1, 9, 0, 0), 30 - 2 * 9);
