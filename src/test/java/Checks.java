@@ -17,6 +17,14 @@ final class Checks {
         due(call, got ? 1 : 0, want ? 1 : 0);
     }
 
+    void due(String call, String got, String want) {
+        made++;
+        if (!got.equals(want)) {
+            wrong++;
+            System.out.println(call + " answered " + got + ", due is " + want);
+        }
+    }
+
     void refused(PondRoofs x, int pond, int what) {
         made++;
         try {
