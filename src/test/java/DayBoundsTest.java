@@ -502,27 +502,40 @@ public final class DayBoundsTest {
         CHECKS.due("carp", y.pond(0, 7), 3);
     }
 
-    /** Sixty days by one seed: the draws of a day begin where those of the day ahead ended. */
     private static void drawsGoOn() {
-        long[] seeds = {0, 1, -1, 77, Long.MAX_VALUE, Long.MIN_VALUE};
-        for (long seed : seeds) {
-            PondRoofs x = Checks.town("sd2;pw50c99l0n0;pw50c99f99");
-            x.odds(0, 40);
-            x.odds(1, 60);
-            Draws draws = new Draws(seed);
-            int water = 50;
-            for (int day = 0; day < 60; day++) {
-                int rain = 0;
-                if (draws.next(100) < 40) {
-                    rain = draws.next(10);
-                } else if (draws.next(100) < 60) {
-                    draws.next(2);
-                }
-                water = Math.max(0, Math.min(99, water + rain) - 2);
+        int[] storms = {40, 20, 0, 0, 99, 50};
+        int[] pikes = {60, 0, 60, 0, 99, 0};
+        for (int i = 0; i < storms.length; i++) {
+            for (long seed : new long[] {0, 1, -1, 77, Long.MAX_VALUE, Long.MIN_VALUE}) {
+                sixtyDays("sd2;pw50c99l0n0;pw50c99f99", storms[i], pikes[i], seed);
+                // where each has nine pikes already, the pond is drawn all the same
+                sixtyDays("sd2m0;pw50c99f99g9;pw50c99f99g9", storms[i], pikes[i], seed);
             }
-            CHECKS.due("years", x.years(60, seed), 60);
-            CHECKS.due("sixty days by " + seed, x.pond(0, 0), water);
         }
+        eachCallBeginsWithItsSeed();
+    }
+
+    /** The draws of a day begin where those of the day ahead ended; one that can tell nothing is drawn, too. */
+    private static void sixtyDays(String town, int storm, int pike, long seed) {
+        PondRoofs x = Checks.town(town);
+        x.odds(0, storm);
+        x.odds(1, pike);
+        Draws draws = new Draws(seed);
+        int water = 50;
+        for (int day = 0; day < 60; day++) {
+            int rain = 0;
+            if (draws.next(100) < storm) {
+                rain = draws.next(10);
+            } else if (draws.next(100) < pike) {
+                draws.next(2);
+            }
+            water = Math.max(0, Math.min(99, water + rain) - 2);
+        }
+        CHECKS.due("years", x.years(60, seed), 60);
+        CHECKS.due("sixty days by " + storm + ", " + pike + ", " + seed, x.pond(0, 0), water);
+    }
+
+    private static void eachCallBeginsWithItsSeed() {
         PondRoofs whole = Checks.town("sd2;pw50c99");
         PondRoofs parts = Checks.town("sd2;pw50c99");
         whole.odds(0, 99);

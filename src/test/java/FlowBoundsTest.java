@@ -135,6 +135,9 @@ public final class FlowBoundsTest {
             flow("pw30c" + (30 + room) + ";pw60;im9", Math.min(9, room));
             flowBy("y:9", "pw31;pw30c" + (30 + room) + ";im9", Math.min(9, room));
         }
+        for (int room = 0; room <= 11; room++) {
+            flow("pw60;pw30b5c" + (30 + room) + ";im9", Math.min(9, room));
+        }
         // the higher one's own room does not count
         flow("pw60c60;pw30;im9", 9);
     }
@@ -180,6 +183,18 @@ public final class FlowBoundsTest {
         is("h", "7");
         is("l", "10");
         is("t", "0");
+        // whichever end is the higher one: levels 12 and 43
+        String[] towns = {"pw10b2;pw40b3;im8h7", "pw40b3;pw10b2;im8h7", "pw10b2;pw40b3;ia1b0m8h7"};
+        for (String town : towns) {
+            flowBy("y:d-25", town, 6);
+            flowBy("y:w-35", town, 5);
+            flowBy("y:l-6", town, 4);
+            flowBy("y:m-5", town, 3);
+            flowBy("y:h-5", town, 2);
+        }
+        // m is what the pipe takes, though there is less room or less above the mouth
+        flowBy("y:m-5", "pw60;pw10c15;im8", 3);
+        flowBy("y:m-5", "pw60;pw10;im8h55", 3);
         PondRoofs x = Checks.town("sd0;pw60;pw0;im9");
         Checks.text(x, 1, "y:t=9998?1;y:t=9999?2;y:t=10000?3");
         CHECKS.due("five digits are no number", x.count(4) > 0, true);

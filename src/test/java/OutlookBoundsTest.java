@@ -12,6 +12,7 @@ public final class OutlookBoundsTest {
         performs();
         ahead();
         behindTheLastDay();
+        driesBehindTheLastDay();
         dries();
         bare();
         keys();
@@ -240,6 +241,22 @@ public final class OutlookBoundsTest {
         CHECKS.due("the day stays", x.count(6), 9999);
     }
 
+    /** From the last day on the first pond runs into the second: 5 and 2, 4 and 3 .. 0 and 7. */
+    private static void driesBehindTheLastDay() {
+        PondRoofs x = Checks.town("sd0;pw5c99b9n1;pw2c99n3;im1o1");
+        Checks.text(x, 1, "y:t>9998?1");
+        x.law(0);
+        for (int i = 0; i < 166; i++) {
+            x.days(60);
+        }
+        CHECKS.due("the last day", x.days(39), 9999);
+        for (int n = 1; n <= 9; n++) {
+            CHECKS.due("keys for " + n + " days behind the last", x.keys(n), n <= 4 ? 1 : -1);
+            CHECKS.due("kept for " + n + " days behind the last", x.kept(n, 0), n <= 4 ? 2 : 1);
+        }
+        CHECKS.due("runs dry behind the last day", x.dries(0), 5);
+    }
+
     private static void dries() {
         int[] water = {0, 1, 2, 98, 99};
         for (int w : water) {
@@ -366,6 +383,7 @@ public final class OutlookBoundsTest {
             CHECKS.due("as much as they need", Checks.town("sr1d3;pw" + (10 + 2 * n)).cut(n), -1);
             CHECKS.due("one less", Checks.town("sr1d3;pw" + (9 + 2 * n)).cut(n), 1);
             CHECKS.due("one more", Checks.town("sr1d3;pw" + (11 + 2 * n)).cut(n), -1);
+            CHECKS.due("one less, whatever its bed", Checks.town("sr1d3;pb9w" + (9 + 2 * n)).cut(n), 1);
             CHECKS.due("with a leak", Checks.town("sr1d3;pe2w" + (9 + 4 * n)).cut(n), 1);
             CHECKS.due("with a leak", Checks.town("sr1d3;pe2w" + (10 + 4 * n)).cut(n), -1);
             String pipe = "sr1d3;pw99c99n0;pe6w" + (10 + 8 * n - 5 * n) + ";im4;im1o1";
@@ -378,6 +396,8 @@ public final class OutlookBoundsTest {
         CHECKS.due("two, joined with each other alone", both.cut(1), 6);
         PondRoofs all = Checks.town("sd1;pw10;pw10;pw10;im1;ia1b2m1;ia2b0m1");
         CHECKS.due("all three, none of fewer", all.cut(1), 7);
+        PondRoofs one = Checks.town("sd1;pw10;pw10;pw10;im1");
+        CHECKS.due("both of the first would do, the third alone is fewer", one.cut(1), 4);
         PondRoofs seven = Checks.town("sd1;" + times("pw10", 7));
         CHECKS.due("the least of seven", seven.cut(9), 1);
         PondRoofs last = Checks.town("sd1;" + times("pw99c99", 6) + ";pw10");
@@ -475,6 +495,10 @@ public final class OutlookBoundsTest {
             CHECKS.due("an eleventh", x.measured(0, gain), -1);
         }
         CHECKS.due("ten", x.count(16), 10);
+        CHECKS.due("an image", x.image(), 0);
+        CHECKS.due("a day", x.days(1), 1);
+        CHECKS.due("back", x.back(), 0);
+        CHECKS.due("what was measured stays", x.count(16), 10);
         CHECKS.due("from 0 to 1, nine", x.secret(0), 1019);
         CHECKS.due("another town", Checks.text(x, 0, "p;p"), 2);
         CHECKS.due("none is left", x.count(16), 0);
@@ -693,6 +717,7 @@ public final class OutlookBoundsTest {
     private static void darkest() {
         CHECKS.due("darkest without a town", new PondRoofs().darkest(), -1);
         CHECKS.due("none above", Checks.town("pw25;pw24;pw0l0").darkest(), -1);
+        CHECKS.due("none above, whatever its bed", Checks.town("pw25b9").darkest(), -1);
         CHECKS.due("one above by one", Checks.town("pw25;pw26;pw0l0").darkest(), 1);
         CHECKS.due("of several the lowest", Checks.town("pw25;pw27;pw2l0;pw26").darkest(), 1);
         CHECKS.due("one more", Checks.town("pw25;pw27;pw3l0;pw26").darkest(), 2);
